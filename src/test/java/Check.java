@@ -33,6 +33,17 @@ final class Check {
         }
     }
 
+    /** Puts a sum of so many constants 1, a power of 2, all at the same depth. */
+    static void pushFull(TreeCoverForge forge, int leaves) {
+        if (leaves == 1) {
+            pushAll(forge, 0, 1);
+        } else {
+            pushFull(forge, leaves / 2);
+            pushFull(forge, leaves / 2);
+            pushAll(forge, 5, 0);
+        }
+    }
+
     /** Makes rules that cover every tree as kind 0, every rule at cost 1 and with its operator's number. */
     static void plainRules(TreeCoverForge forge) {
         for (int op = 0; op < 8; op++) {

@@ -132,7 +132,7 @@ public final class PileTest {
 
     private static void badBeforeFull() {
         TreeCoverForge forge = new TreeCoverForge();
-        pushFull(forge, 16);
+        Check.pushFull(forge, 16);
         Check.pushAll(forge, 3, 0, 3, 0, 3, 0, 3, 0, 3, 0);
         counts(forge, 1, 36);
         Check.due("height 11", forge.push(3, 0), TreeCoverForge.FULL);
@@ -142,17 +142,6 @@ public final class PileTest {
         badOperatorsAndNumbers(forge);
         Check.due("push(0, 1) at 40", forge.push(0, 1), TreeCoverForge.FULL);
         Check.due("push(6, 0) at 40", forge.push(6, 0), TreeCoverForge.FULL);
-    }
-
-    /** Puts a tree with so many leaves, all at the same depth. */
-    private static void pushFull(TreeCoverForge forge, int leaves) {
-        if (leaves == 1) {
-            Check.pushAll(forge, 0, 1);
-        } else {
-            pushFull(forge, leaves / 2);
-            pushFull(forge, leaves / 2);
-            Check.pushAll(forge, 5, 0);
-        }
     }
 
     private static void popTakesWholeTrees() {
