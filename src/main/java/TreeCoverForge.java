@@ -78,7 +78,10 @@ public final class TreeCoverForge {
     }
 
     public int states() {
-        return table.countStates(book);
+        if (table.counted == NOT_COUNTED) {
+            table.findAll(book);
+        }
+        return table.counted;
     }
 
     public int push(int op, int v) {
@@ -292,11 +295,11 @@ public final class TreeCoverForge {
             applyChains(book);
         }
 
-        /** KINDS - 1 rounds settle the costs, one more the choices among rules of the same cost. */
+        /** A cover of least cost takes no kind twice: after KINDS - 1 chain rules nothing changes. */
         private void applyChains(RuleBook book) {
             int size = book.sizeOf[CHAIN];
             boolean changed = true;
-            for (int round = 0; round < KINDS && changed; round++) {
+            for (int round = 0; round < KINDS - 1 && changed; round++) {
                 changed = false;
                 for (int i = 0; i < size; i++) {
                     int rule = book.numbersOf[CHAIN][i];
@@ -312,7 +315,7 @@ public final class TreeCoverForge {
         private boolean offer(RuleBook book, int rule, long costBelow) {
             int kind = book.kinds[rule];
             long total = costBelow + book.costs[rule];
-            boolean better = !isCovered(kind) || total < costs[kind]
+            boolean better = costs[kind] == UNCOVERED || total < costs[kind]
                     || total == costs[kind] && rule < choices[kind];
             if (better) {
                 costs[kind] = total;
@@ -356,6 +359,7 @@ public final class TreeCoverForge {
         final Label[] found = new Label[MAX_STATES + 1];
         final Label noKid = new Label();
         int foundCount;
+        /** The answer for the rules of now, kept until they change. */
         int counted = NOT_COUNTED;
 
         StateTable() {
@@ -364,15 +368,7 @@ public final class TreeCoverForge {
             }
         }
 
-        int countStates(RuleBook book) {
-            if (counted == NOT_COUNTED) {
-                findAll(book);
-                counted = foundCount > MAX_STATES ? DIVERGES : foundCount;
-            }
-            return counted;
-        }
-
-        private void findAll(RuleBook book) {
+        void findAll(RuleBook book) {
             foundCount = 0;
             for (int op = CONST; op <= PLACE; op++) {
                 look(book, op, noKid, noKid);
@@ -385,6 +381,7 @@ public final class TreeCoverForge {
                     lookAtPair(book, i, j);
                 }
             }
+            counted = foundCount > MAX_STATES ? DIVERGES : foundCount;
         }
 
         private void lookAtPair(RuleBook book, int i, int j) {

@@ -15,6 +15,8 @@ public final class CodeTest {
         sourcesAreReadFirst();
         codeStays();
         largestCode();
+        nodesOfTheTopTree();
+        otherKindsBefore();
         Check.finish();
     }
 
@@ -225,5 +227,38 @@ public final class CodeTest {
             Check.due("run()", forge.run(), root == 3 ? -20 : 40);
             Check.due("slots()", forge.slots() > 0, true);
         }
+    }
+
+    /** Nodes are counted from the top tree's first one, whatever lies below it. */
+    private static void nodesOfTheTopTree() {
+        TreeCoverForge forge = new TreeCoverForge();
+        forge.rule(1, 0, 0, 0, 1);
+        forge.rule(0, 8, 1, 0, 1);
+        forge.rule(1, 5, 0, 0, 1);
+        Check.pushAll(forge, 0, 8, 0, 9, 5, 0, 0, 7, 0, 2, 0, 3, 5, 0);
+        Check.due("cover()", forge.cover(), 6);
+        int[] rules = {0, 1, 0, 1, 2, 1};
+        int[] nodes = {0, 0, 1, 1, 2, 2};
+        for (int i = 0; i < 6; i++) {
+            Check.instruction(forge, i, rules[i], nodes[i]);
+        }
+        Check.due("run()", forge.run(), 5);
+    }
+
+    /** A place on the pile first holds a kid that is covered as kind 1, then a root. */
+    private static void otherKindsBefore() {
+        TreeCoverForge forge = new TreeCoverForge();
+        forge.rule(1, 0, 0, 0, 1);
+        forge.rule(0, 3, 1, 0, 1);
+        forge.rule(0, 0, 0, 0, 5);
+        Check.pushAll(forge, 0, 8, 3, 0);
+        Check.due("cover()", forge.cover(), 2);
+        Check.instruction(forge, 0, 0, 0, 0, NONE, NONE);
+        Check.instruction(forge, 1, 1, 1, 0, 0, NONE);
+        forge.pop();
+        Check.pushAll(forge, 0, 4);
+        Check.due("cover()", forge.cover(), 1);
+        Check.instruction(forge, 0, 2, 0, 0, NONE, NONE);
+        Check.due("run()", forge.run(), 4);
     }
 }

@@ -7,6 +7,7 @@ public final class RunTest {
         variablesOfNow();
         runIsTheCodes();
         leftAndRight();
+        largestTree();
         Check.finish();
     }
 
@@ -130,5 +131,14 @@ public final class RunTest {
             forge.registers(k);
             bothAnswer(forge, 65);
         }
+    }
+
+    private static void largestTree() {
+        TreeCoverForge forge = new TreeCoverForge();
+        Check.plainRules(forge);
+        Check.pushFull(forge, 16);
+        Check.pushAll(forge, 0, 1, 5, 0, 0, 1, 5, 0, 0, 1, 5, 0, 0, 1, 5, 0, 3, 0);
+        Check.due("nodes()", forge.nodes(), 40);
+        bothAnswer(forge, -20);
     }
 }
