@@ -28,13 +28,6 @@ public final class CodeTest {
         Check.due("instruction(" + due.length + ", 2)", forge.instruction(due.length, 2), BAD);
     }
 
-    private static TreeCoverForge plain(int... pairs) {
-        TreeCoverForge forge = new TreeCoverForge();
-        Check.plainRules(forge);
-        Check.pushAll(forge, pairs);
-        return forge;
-    }
-
     private static void refusedCovers() {
         TreeCoverForge forge = new TreeCoverForge();
         Check.due("cover() without a tree", forge.cover(), BAD);
@@ -56,7 +49,7 @@ public final class CodeTest {
     }
 
     private static void partsOfInstructions() {
-        TreeCoverForge forge = plain(2, 1, 1, 0, 0, 5, 3, 0, 6, 0, 4, 0);
+        TreeCoverForge forge = Check.plain(2, 1, 1, 0, 0, 5, 3, 0, 6, 0, 4, 0);
         Check.due("cover()", forge.cover(), 5);
         Check.instruction(forge, 0, 1, 0, 0, NONE, NONE);
         Check.instruction(forge, 1, 0, 1, 1, NONE, NONE);
@@ -108,11 +101,11 @@ public final class CodeTest {
     }
 
     private static void threeRegistersAtFirst() {
-        TreeCoverForge forge = plain(0, 9, 0, 4, 0, 2, 6, 0, 6, 0);
+        TreeCoverForge forge = Check.plain(0, 9, 0, 4, 0, 2, 6, 0, 6, 0);
         Check.due("cover()", forge.cover(), 5);
         places(forge, 0, 1, 2, 1, 0);
         Check.due("slots()", forge.slots(), 0);
-        forge = plain(0, 9, 0, 4, 0, 2, 0, 1, 6, 0, 6, 0, 6, 0);
+        forge = Check.plain(0, 9, 0, 4, 0, 2, 0, 1, 6, 0, 6, 0, 6, 0);
         Check.due("cover()", forge.cover(), 7);
         places(forge, 3, 1, 2, 0, 0, 0, 0);
         Check.due("slots()", forge.slots(), 1);
@@ -120,7 +113,7 @@ public final class CodeTest {
     }
 
     private static void boundsOfRegisters() {
-        TreeCoverForge forge = plain(0, 9, 0, 4, 0, 2, 0, 1, 6, 0, 6, 0, 6, 0);
+        TreeCoverForge forge = Check.plain(0, 9, 0, 4, 0, 2, 0, 1, 6, 0, 6, 0, 6, 0);
         int[] slots = {0, 3, 2, 1, 0};
         for (int k = 1; k <= 4; k++) {
             Check.due("registers(" + k + ")", forge.registers(k), true);
@@ -135,7 +128,7 @@ public final class CodeTest {
     }
 
     private static void registersForCoversToCome() {
-        TreeCoverForge forge = plain(0, 9, 0, 4, 6, 0);
+        TreeCoverForge forge = Check.plain(0, 9, 0, 4, 6, 0);
         Check.due("cover()", forge.cover(), 3);
         forge.registers(1);
         places(forge, 0, 1, 0);
@@ -152,7 +145,7 @@ public final class CodeTest {
 
     /** With two registers: first the outermost constant goes to a slot, then the first sum. */
     private static void longestNeededIsSpilled() {
-        TreeCoverForge forge = plain(0, 1, 0, 2, 0, 3, 5, 0, 0, 4, 0, 5, 5, 0, 5, 0, 5, 0);
+        TreeCoverForge forge = Check.plain(0, 1, 0, 2, 0, 3, 5, 0, 0, 4, 0, 5, 5, 0, 5, 0, 5, 0);
         forge.registers(2);
         Check.due("cover()", forge.cover(), 9);
         places(forge, 2, 1, 0, 3, 1, 0, 0, 0, 0);
@@ -165,7 +158,7 @@ public final class CodeTest {
 
     /** Of two kids of one operator, needed equally long, the later one goes to a slot. */
     private static void placesWithOneRegister() {
-        TreeCoverForge forge = plain(0, 50, 0, 8, 6, 0, 0, 3, 0, 1, 6, 0, 6, 0);
+        TreeCoverForge forge = Check.plain(0, 50, 0, 8, 6, 0, 0, 3, 0, 1, 6, 0, 6, 0);
         forge.registers(1);
         Check.due("cover()", forge.cover(), 7);
         places(forge, 0, 1, 2, 0, 3, 0, 0);
@@ -180,7 +173,7 @@ public final class CodeTest {
     }
 
     private static void sourcesAreReadFirst() {
-        TreeCoverForge forge = plain(0, 7, 3, 0, 4, 0, 3, 0);
+        TreeCoverForge forge = Check.plain(0, 7, 3, 0, 4, 0, 3, 0);
         forge.registers(1);
         Check.due("cover()", forge.cover(), 4);
         places(forge, 0, 0, 0, 0);
@@ -189,7 +182,7 @@ public final class CodeTest {
     }
 
     private static void codeStays() {
-        TreeCoverForge forge = plain(0, 30, 1, 5, 6, 0);
+        TreeCoverForge forge = Check.plain(0, 30, 1, 5, 6, 0);
         Check.due("cover()", forge.cover(), 3);
         forge.clear();
         forge.rule(0, 0, 0, 0, 9);

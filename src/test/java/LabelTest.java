@@ -16,29 +16,18 @@ public final class LabelTest {
         Check.finish();
     }
 
-    private static void label(TreeCoverForge forge, int node, int kind, int relative, int choice) {
-        Check.due("relative(" + node + ", " + kind + ")", forge.relative(node, kind), relative);
-        Check.due("choice(" + node + ", " + kind + ")", forge.choice(node, kind), choice);
-    }
-
-    private static void costs(TreeCoverForge forge, int... due) {
-        for (int kind = 0; kind < due.length; kind++) {
-            Check.due("cost(" + kind + ")", forge.cost(kind), due[kind]);
-        }
-    }
-
     private static void noTree() {
         TreeCoverForge forge = new TreeCoverForge();
         Check.plainRules(forge);
         for (int kind = -1; kind <= 4; kind++) {
-            label(forge, 0, kind, BAD, BAD);
+            Check.label(forge, 0, kind, BAD, BAD);
             Check.due("cost(" + kind + ")", forge.cost(kind), BAD);
         }
         Check.pushAll(forge, 0, 1);
-        label(forge, 0, 0, 0, 0);
+        Check.label(forge, 0, 0, 0, 0);
         forge.pop();
-        label(forge, 0, 0, BAD, BAD);
-        costs(forge, BAD, BAD, BAD, BAD);
+        Check.label(forge, 0, 0, BAD, BAD);
+        Check.costs(forge, BAD, BAD, BAD, BAD);
     }
 
     private static void outOfBounds() {
@@ -47,18 +36,18 @@ public final class LabelTest {
         Check.pushAll(forge, 0, 1, 0, 1, 0, 1, 5, 0);
         for (int node : new int[] {-1, 3, 4, Integer.MIN_VALUE, Integer.MAX_VALUE}) {
             for (int kind = 0; kind < 4; kind++) {
-                label(forge, node, kind, BAD, BAD);
+                Check.label(forge, node, kind, BAD, BAD);
             }
         }
         for (int kind : new int[] {-1, 4, Integer.MIN_VALUE, Integer.MAX_VALUE}) {
-            label(forge, 0, kind, BAD, BAD);
-            label(forge, 2, kind, BAD, BAD);
-            label(forge, 3, kind, BAD, BAD);
+            Check.label(forge, 0, kind, BAD, BAD);
+            Check.label(forge, 2, kind, BAD, BAD);
+            Check.label(forge, 3, kind, BAD, BAD);
             Check.due("cost(" + kind + ")", forge.cost(kind), BAD);
         }
-        label(forge, 2, 0, 0, 5);
-        label(forge, 2, 1, NONE, NONE);
-        costs(forge, 3, NONE, NONE, NONE);
+        Check.label(forge, 2, 0, 0, 5);
+        Check.label(forge, 2, 1, NONE, NONE);
+        Check.costs(forge, 3, NONE, NONE, NONE);
     }
 
     private static void costsOfAllKinds() {
@@ -67,23 +56,23 @@ public final class LabelTest {
         forge.rule(1, 0, 0, 0, 5);
         forge.rule(2, 0, 0, 0, 9);
         Check.pushAll(forge, 0, 1);
-        costs(forge, 7, 5, 9, NONE);
-        label(forge, 0, 0, 2, 0);
-        label(forge, 0, 1, 0, 1);
-        label(forge, 0, 2, 4, 2);
-        label(forge, 0, 3, NONE, NONE);
+        Check.costs(forge, 7, 5, 9, NONE);
+        Check.label(forge, 0, 0, 2, 0);
+        Check.label(forge, 0, 1, 0, 1);
+        Check.label(forge, 0, 2, 4, 2);
+        Check.label(forge, 0, 3, NONE, NONE);
         forge.rule(3, 6, 1, 2, 3);
         forge.rule(3, 6, 0, 1, 6);
         forge.rule(0, 6, 3, 1, 0);
         Check.pushAll(forge, 0, 1, 6, 0);
-        costs(forge, NONE, NONE, NONE, 17);
-        label(forge, 2, 3, 0, 3);
-        label(forge, 2, 0, NONE, NONE);
+        Check.costs(forge, NONE, NONE, NONE, 17);
+        Check.label(forge, 2, 3, 0, 3);
+        Check.label(forge, 2, 0, NONE, NONE);
         Check.pushAll(forge, 0, 1, 6, 0);
-        costs(forge, 22, NONE, NONE, NONE);
-        label(forge, 4, 0, 0, 5);
+        Check.costs(forge, 22, NONE, NONE, NONE);
+        Check.label(forge, 4, 0, 0, 5);
         Check.pushAll(forge, 3, 0);
-        costs(forge, NONE, NONE, NONE, NONE);
+        Check.costs(forge, NONE, NONE, NONE, NONE);
     }
 
     private static void nodesAreTreesOfTheirOwn() {
@@ -96,17 +85,17 @@ public final class LabelTest {
         forge.rule(2, 7, 0, 1, 1);
         forge.rule(3, 7, 1, 0, 1);
         Check.pushAll(forge, 2, 0, 0, 6, 3, 0, 1, 1, 3, 0, 7, 0);
-        label(forge, 0, 0, 5, 0);
-        label(forge, 0, 1, 0, 1);
-        label(forge, 1, 0, 1, 4);
-        label(forge, 1, 1, 0, 3);
-        label(forge, 2, 0, 0, 2);
-        label(forge, 2, 1, NONE, NONE);
-        label(forge, 3, 0, NONE, NONE);
-        label(forge, 3, 1, 0, 3);
-        label(forge, 4, 2, 0, 5);
-        label(forge, 4, 3, NONE, NONE);
-        costs(forge, NONE, NONE, 18, NONE);
+        Check.label(forge, 0, 0, 5, 0);
+        Check.label(forge, 0, 1, 0, 1);
+        Check.label(forge, 1, 0, 1, 4);
+        Check.label(forge, 1, 1, 0, 3);
+        Check.label(forge, 2, 0, 0, 2);
+        Check.label(forge, 2, 1, NONE, NONE);
+        Check.label(forge, 3, 0, NONE, NONE);
+        Check.label(forge, 3, 1, 0, 3);
+        Check.label(forge, 4, 2, 0, 5);
+        Check.label(forge, 4, 3, NONE, NONE);
+        Check.costs(forge, NONE, NONE, 18, NONE);
     }
 
     private static void leastNumberedRule() {
@@ -120,10 +109,10 @@ public final class LabelTest {
         forge.rule(2, 8, 1, 0, 2);
         forge.rule(2, 0, 0, 0, 4);
         Check.pushAll(forge, 0, 1);
-        costs(forge, 5, 2, 4, NONE);
-        label(forge, 0, 0, 3, 1);
-        label(forge, 0, 1, 0, 5);
-        label(forge, 0, 2, 2, 6);
+        Check.costs(forge, 5, 2, 4, NONE);
+        Check.label(forge, 0, 0, 3, 1);
+        Check.label(forge, 0, 1, 0, 5);
+        Check.label(forge, 0, 2, 2, 6);
         forge.clear();
         forge.rule(1, 4, 2, 0, 1);
         forge.rule(2, 0, 0, 0, 3);
@@ -131,8 +120,8 @@ public final class LabelTest {
         forge.rule(3, 0, 0, 0, 2);
         forge.rule(1, 4, 3, 0, 2);
         Check.pushAll(forge, 4, 0);
-        label(forge, 1, 1, 0, 0);
-        costs(forge, NONE, 4, NONE, NONE);
+        Check.label(forge, 1, 1, 0, 0);
+        Check.costs(forge, NONE, 4, NONE, NONE);
     }
 
     /** The chain rules stand so that no single pass over them in their order settles anything. */
@@ -146,15 +135,15 @@ public final class LabelTest {
         forge.rule(3, 1, 0, 0, 1);
         forge.rule(0, 1, 0, 0, 7);
         Check.pushAll(forge, 1, 0);
-        costs(forge, 7, 6, 4, 1);
-        label(forge, 0, 0, 6, 0);
-        label(forge, 0, 1, 5, 1);
-        label(forge, 0, 2, 3, 2);
-        label(forge, 0, 3, 0, 5);
+        Check.costs(forge, 7, 6, 4, 1);
+        Check.label(forge, 0, 0, 6, 0);
+        Check.label(forge, 0, 1, 5, 1);
+        Check.label(forge, 0, 2, 3, 2);
+        Check.label(forge, 0, 3, 0, 5);
         forge.rule(3, 1, 0, 0, 0);
-        costs(forge, 6, 5, 3, 0);
-        label(forge, 0, 0, 6, 0);
-        label(forge, 0, 3, 0, 7);
+        Check.costs(forge, 6, 5, 3, 0);
+        Check.label(forge, 0, 0, 6, 0);
+        Check.label(forge, 0, 3, 0, 7);
         TreeCoverForge tied = new TreeCoverForge();
         tied.rule(0, 8, 1, 0, 1);
         tied.rule(0, 0, 0, 0, 6);
@@ -164,34 +153,34 @@ public final class LabelTest {
         tied.rule(2, 0, 0, 0, 3);
         tied.rule(3, 0, 0, 0, 0);
         Check.pushAll(tied, 0, 0);
-        costs(tied, 6, 5, 3, 0);
-        label(tied, 0, 0, 6, 0);
-        label(tied, 0, 1, 5, 2);
-        label(tied, 0, 2, 3, 4);
+        Check.costs(tied, 6, 5, 3, 0);
+        Check.label(tied, 0, 0, 6, 0);
+        Check.label(tied, 0, 1, 5, 2);
+        Check.label(tied, 0, 2, 3, 4);
     }
 
     private static void rulesOfNowCount() {
         TreeCoverForge forge = new TreeCoverForge();
         Check.pushAll(forge, 0, 1, 3, 0);
-        costs(forge, NONE, NONE, NONE, NONE);
+        Check.costs(forge, NONE, NONE, NONE, NONE);
         forge.rule(0, 0, 0, 0, 9);
-        label(forge, 0, 0, 0, 0);
-        costs(forge, NONE, NONE, NONE, NONE);
+        Check.label(forge, 0, 0, 0, 0);
+        Check.costs(forge, NONE, NONE, NONE, NONE);
         forge.rule(0, 3, 0, 0, 9);
-        costs(forge, 18, NONE, NONE, NONE);
+        Check.costs(forge, 18, NONE, NONE, NONE);
         forge.rule(0, 0, 0, 0, 1);
-        costs(forge, 10, NONE, NONE, NONE);
-        label(forge, 0, 0, 0, 2);
+        Check.costs(forge, 10, NONE, NONE, NONE);
+        Check.label(forge, 0, 0, 0, 2);
         forge.rule(2, 8, 0, 0, 6);
-        label(forge, 1, 2, 6, 3);
+        Check.label(forge, 1, 2, 6, 3);
         Check.due("a refused rule", forge.rule(0, 0, 0, 0, -1), BAD);
-        costs(forge, 10, NONE, 16, NONE);
+        Check.costs(forge, 10, NONE, 16, NONE);
         forge.clear();
-        label(forge, 0, 0, NONE, NONE);
-        label(forge, 1, 2, NONE, NONE);
-        costs(forge, NONE, NONE, NONE, NONE);
+        Check.label(forge, 0, 0, NONE, NONE);
+        Check.label(forge, 1, 2, NONE, NONE);
+        Check.costs(forge, NONE, NONE, NONE, NONE);
         forge.rule(1, 0, 0, 0, 2);
-        label(forge, 0, 1, 0, 0);
+        Check.label(forge, 0, 1, 0, 0);
     }
 
     private static void onlyTheTopTree() {
@@ -200,25 +189,25 @@ public final class LabelTest {
             forge.rule(0, op, 0, 0, op + 1);
         }
         Check.pushAll(forge, 0, 1, 1, 1, 7, 0, 2, 1);
-        costs(forge, 3);
-        label(forge, 0, 0, 0, 2);
-        label(forge, 1, 0, BAD, BAD);
+        Check.costs(forge, 3);
+        Check.label(forge, 0, 0, 0, 2);
+        Check.label(forge, 1, 0, BAD, BAD);
         forge.pop();
-        costs(forge, 11);
-        label(forge, 1, 0, 0, 1);
-        label(forge, 2, 0, 0, 7);
+        Check.costs(forge, 11);
+        Check.label(forge, 1, 0, 0, 1);
+        Check.label(forge, 2, 0, 0, 7);
         forge.pop();
         Check.pushAll(forge, 2, 1, 3, 0, 4, 0);
-        costs(forge, 12);
-        label(forge, 0, 0, 0, 2);
-        label(forge, 1, 0, 0, 3);
-        label(forge, 2, 0, 0, 4);
-        label(forge, 3, 0, BAD, BAD);
+        Check.costs(forge, 12);
+        Check.label(forge, 0, 0, 0, 2);
+        Check.label(forge, 1, 0, 0, 3);
+        Check.label(forge, 2, 0, 0, 4);
+        Check.label(forge, 3, 0, BAD, BAD);
         Check.pushAll(forge, 1, 1, 6, 0);
-        costs(forge, 21);
-        label(forge, 2, 0, 0, 4);
-        label(forge, 3, 0, 0, 1);
-        label(forge, 4, 0, 0, 6);
+        Check.costs(forge, 21);
+        Check.label(forge, 2, 0, 0, 4);
+        Check.label(forge, 3, 0, 0, 1);
+        Check.label(forge, 4, 0, 0, 6);
     }
 
     /** All rules at cost 9, three chain rules at every node, 39 nodes (a binary tree has an odd number). */
@@ -232,8 +221,8 @@ public final class LabelTest {
         Check.pushFull(forge, 16);
         Check.pushAll(forge, 0, 1, 5, 0, 0, 1, 5, 0, 0, 1, 5, 0, 0, 1, 5, 0);
         Check.due("nodes()", forge.nodes(), 39);
-        costs(forge, 39 * 36, 39 * 36 - 9, 39 * 36 - 18, 39 * 36 - 27);
-        label(forge, 38, 0, 27, 4);
+        Check.costs(forge, 39 * 36, 39 * 36 - 9, 39 * 36 - 18, 39 * 36 - 27);
+        Check.label(forge, 38, 0, 27, 4);
         Check.due("cover()", forge.cover(), 39 * 4);
         Check.due("run()", forge.run(), 20);
     }

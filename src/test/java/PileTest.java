@@ -11,31 +11,26 @@ public final class PileTest {
         Check.finish();
     }
 
-    private static void counts(TreeCoverForge forge, int trees, int nodes) {
-        Check.due("trees()", forge.trees(), trees);
-        Check.due("nodes()", forge.nodes(), nodes);
-    }
-
     private static void pushAnswersTheTrees() {
         TreeCoverForge forge = new TreeCoverForge();
-        counts(forge, 0, 0);
+        Check.pile(forge, 0, 0);
         Check.due("push(0, 9)", forge.push(0, 9), 1);
-        counts(forge, 1, 1);
+        Check.pile(forge, 1, 1);
         Check.due("push(1, 1)", forge.push(1, 1), 2);
         Check.due("push(2, 2)", forge.push(2, 2), 3);
-        counts(forge, 3, 1);
+        Check.pile(forge, 3, 1);
         Check.due("push(3, 0)", forge.push(3, 0), 3);
-        counts(forge, 3, 2);
+        Check.pile(forge, 3, 2);
         Check.due("push(4, 0)", forge.push(4, 0), 3);
-        counts(forge, 3, 3);
+        Check.pile(forge, 3, 3);
         Check.due("push(5, 0)", forge.push(5, 0), 2);
-        counts(forge, 2, 5);
+        Check.pile(forge, 2, 5);
         Check.due("push(0, 1)", forge.push(0, 1), 3);
-        counts(forge, 3, 1);
+        Check.pile(forge, 3, 1);
         Check.due("push(6, 0)", forge.push(6, 0), 2);
-        counts(forge, 2, 7);
+        Check.pile(forge, 2, 7);
         Check.due("push(7, 0)", forge.push(7, 0), 1);
-        counts(forge, 1, 9);
+        Check.pile(forge, 1, 9);
         Check.due("value()", forge.value(), 9 * (0 - 204 - 1));
     }
 
@@ -57,16 +52,16 @@ public final class PileTest {
         for (int op = 3; op < 8; op++) {
             bad(forge, op, 0);
         }
-        counts(forge, 0, 0);
+        Check.pile(forge, 0, 0);
         Check.pushAll(forge, 0, 5);
         for (int op = 5; op < 8; op++) {
             bad(forge, op, 0);
         }
         badOperatorsAndNumbers(forge);
-        counts(forge, 1, 1);
+        Check.pile(forge, 1, 1);
         Check.pushAll(forge, 0, 5, 5, 0);
         bad(forge, 5, 0);
-        counts(forge, 1, 3);
+        Check.pile(forge, 1, 3);
         Check.due("value()", forge.value(), 10);
     }
 
@@ -75,7 +70,7 @@ public final class PileTest {
         Check.pushAll(forge, 1, 0, 1, 7, 2, 0, 2, 7, 0, Integer.MIN_VALUE, 0, Integer.MAX_VALUE);
         Check.due("value()", forge.value(), Integer.MAX_VALUE);
         Check.pushAll(forge, 3, -1, 4, 8, 5, Integer.MIN_VALUE, 6, Integer.MAX_VALUE, 7, -7);
-        counts(forge, 3, 9);
+        Check.pile(forge, 3, 9);
     }
 
     private static void fullOfNodes() {
@@ -86,7 +81,7 @@ public final class PileTest {
         for (int op = 0; op < 8; op++) {
             Check.due("push(" + op + ", 1) at 40", forge.push(op, 1), TreeCoverForge.FULL);
         }
-        counts(forge, 40, 1);
+        Check.pile(forge, 40, 1);
         Check.due("pop()", forge.pop(), true);
         Check.due("node 40", forge.push(5, 0), 38);
         Check.due("push(0, 1) at 40", forge.push(0, 1), TreeCoverForge.FULL);
@@ -96,7 +91,7 @@ public final class PileTest {
         Check.due("leaf 39", forge.push(0, 1), 39);
         Check.due("node 40", forge.push(3, 0), 39);
         Check.due("push(3, 0) at 40", forge.push(3, 0), TreeCoverForge.FULL);
-        counts(forge, 39, 2);
+        Check.pile(forge, 39, 2);
     }
 
     private static void tooHigh() {
@@ -107,12 +102,12 @@ public final class PileTest {
         }
         Check.due("height 11", forge.push(3, 0), TreeCoverForge.FULL);
         Check.due("height 11", forge.push(4, 0), TreeCoverForge.FULL);
-        counts(forge, 1, 10);
+        Check.pile(forge, 1, 10);
         Check.due("a leaf over it", forge.push(1, 0), 2);
         for (int op = 5; op < 8; op++) {
             Check.due("the left kid too high", forge.push(op, 0), TreeCoverForge.FULL);
         }
-        counts(forge, 2, 1);
+        Check.pile(forge, 2, 1);
         forge.pop();
         forge.pop();
         Check.pushAll(forge, 0, 1, 0, 1);
@@ -120,25 +115,25 @@ public final class PileTest {
             Check.pushAll(forge, 3, 0);
         }
         Check.due("the right kid just low enough", forge.push(6, 0), 1);
-        counts(forge, 1, 11);
+        Check.pile(forge, 1, 11);
         forge.pop();
         Check.pushAll(forge, 0, 1, 0, 1);
         for (int height = 2; height <= 10; height++) {
             Check.pushAll(forge, 4, 0);
         }
         Check.due("the right kid too high", forge.push(7, 0), TreeCoverForge.FULL);
-        counts(forge, 2, 10);
+        Check.pile(forge, 2, 10);
     }
 
     private static void badBeforeFull() {
         TreeCoverForge forge = new TreeCoverForge();
         Check.pushFull(forge, 16);
         Check.pushAll(forge, 3, 0, 3, 0, 3, 0, 3, 0, 3, 0);
-        counts(forge, 1, 36);
+        Check.pile(forge, 1, 36);
         Check.due("height 11", forge.push(3, 0), TreeCoverForge.FULL);
         bad(forge, 5, 0);
         Check.pushAll(forge, 0, 1, 3, 0, 3, 0, 3, 0);
-        counts(forge, 2, 4);
+        Check.pile(forge, 2, 4);
         badOperatorsAndNumbers(forge);
         Check.due("push(0, 1) at 40", forge.push(0, 1), TreeCoverForge.FULL);
         Check.due("push(6, 0) at 40", forge.push(6, 0), TreeCoverForge.FULL);
@@ -148,20 +143,20 @@ public final class PileTest {
         TreeCoverForge forge = new TreeCoverForge();
         Check.due("pop()", forge.pop(), false);
         Check.pushAll(forge, 0, 1, 0, 2, 0, 3, 5, 0, 0, 4, 3, 0);
-        counts(forge, 3, 2);
+        Check.pile(forge, 3, 2);
         Check.due("value()", forge.value(), -4);
         Check.due("pop()", forge.pop(), true);
-        counts(forge, 2, 3);
+        Check.pile(forge, 2, 3);
         Check.due("value()", forge.value(), 5);
         Check.due("pop()", forge.pop(), true);
-        counts(forge, 1, 1);
+        Check.pile(forge, 1, 1);
         Check.due("value()", forge.value(), 1);
         Check.due("pop()", forge.pop(), true);
-        counts(forge, 0, 0);
+        Check.pile(forge, 0, 0);
         Check.due("pop()", forge.pop(), false);
         Check.due("pop()", forge.pop(), false);
         Check.due("push(3, 0)", forge.push(3, 0), TreeCoverForge.BAD);
         Check.due("push(0, 6)", forge.push(0, 6), 1);
-        counts(forge, 1, 1);
+        Check.pile(forge, 1, 1);
     }
 }

@@ -12,15 +12,6 @@ public final class StatesTest {
         Check.finish();
     }
 
-    private static TreeCoverForge with(int[]... rules) {
-        TreeCoverForge forge = new TreeCoverForge();
-        for (int i = 0; i < rules.length; i++) {
-            int[] rule = rules[i];
-            Check.due("rule " + i, forge.rule(rule[0], rule[1], rule[2], rule[3], rule[4]), i);
-        }
-        return forge;
-    }
-
     private static void leavesAndOperators() {
         TreeCoverForge forge = new TreeCoverForge();
         Check.due("no rules: the state without covers", forge.states(), 1);
@@ -30,40 +21,40 @@ public final class StatesTest {
             Check.due("operators 0 .. " + op, forge.states(), op + 1 + withoutCovers);
         }
         for (int op = 0; op < 3; op++) {
-            Check.due("one leaf " + op, with(new int[] {0, op, 0, 0, 5}).states(), 2);
+            Check.due("one leaf " + op, Check.with(new int[] {0, op, 0, 0, 5}).states(), 2);
         }
-        Check.due("all leaves, no other operator", with(new int[] {0, 0, 0, 0, 1},
+        Check.due("all leaves, no other operator", Check.with(new int[] {0, 0, 0, 0, 1},
                 new int[] {0, 1, 0, 0, 1}, new int[] {0, 2, 0, 0, 1}).states(), 4);
-        Check.due("rules that cover nothing", with(new int[] {0, 5, 0, 0, 1},
+        Check.due("rules that cover nothing", Check.with(new int[] {0, 5, 0, 0, 1},
                 new int[] {0, 8, 1, 0, 1}, new int[] {1, 8, 0, 0, 1}, new int[] {0, 3, 1, 0, 1}).states(), 1);
     }
 
     private static void choicesTellStatesApart() {
-        Check.due("one rule twice", with(new int[] {0, 0, 0, 0, 1}, new int[] {0, 0, 0, 0, 1}).states(), 2);
-        Check.due("two kinds of one leaf", with(new int[] {0, 0, 0, 0, 1},
+        Check.due("one rule twice", Check.with(new int[] {0, 0, 0, 0, 1}, new int[] {0, 0, 0, 0, 1}).states(), 2);
+        Check.due("two kinds of one leaf", Check.with(new int[] {0, 0, 0, 0, 1},
                 new int[] {1, 0, 0, 0, 4}).states(), 2);
-        Check.due("a chain rule beside a leaf's", with(new int[] {0, 0, 0, 0, 1},
+        Check.due("a chain rule beside a leaf's", Check.with(new int[] {0, 0, 0, 0, 1},
                 new int[] {1, 1, 0, 0, 1}, new int[] {0, 8, 1, 0, 1}).states(), 3);
-        Check.due("the same costs by other rules", with(new int[] {0, 0, 0, 0, 0},
+        Check.due("the same costs by other rules", Check.with(new int[] {0, 0, 0, 0, 0},
                 new int[] {0, 4, 0, 0, 0}, new int[] {0, 4, 1, 0, 0}, new int[] {1, 0, 0, 0, 0}).states(), 3);
-        Check.due("a tie takes the least rule", with(new int[] {0, 0, 0, 0, 0},
+        Check.due("a tie takes the least rule", Check.with(new int[] {0, 0, 0, 0, 0},
                 new int[] {1, 0, 0, 0, 0}, new int[] {1, 3, 1, 0, 0}, new int[] {0, 3, 0, 0, 0},
                 new int[] {0, 8, 1, 0, 1}).states(), 3);
     }
 
     private static void numbersDoNotTellStatesApart() {
-        TreeCoverForge forge = with(new int[] {0, 0, 0, 0, 1}, new int[] {0, 1, 0, 0, 1});
+        TreeCoverForge forge = Check.with(new int[] {0, 0, 0, 0, 1}, new int[] {0, 1, 0, 0, 1});
         Check.due("states()", forge.states(), 3);
         Check.pushAll(forge, 0, 1, 0, 2, 1, 3, 1, 4);
         Check.due("states() with trees", forge.states(), 3);
     }
 
     private static void sidesTellStatesApart() {
-        Check.due("the left kid as another kind", with(new int[] {0, 0, 0, 0, 0},
+        Check.due("the left kid as another kind", Check.with(new int[] {0, 0, 0, 0, 0},
                 new int[] {1, 1, 0, 0, 0}, new int[] {2, 6, 0, 1, 0}, new int[] {3, 6, 1, 0, 0}).states(), 5);
-        Check.due("operators over higher trees on either side", with(new int[] {0, 0, 0, 0, 0},
+        Check.due("operators over higher trees on either side", Check.with(new int[] {0, 0, 0, 0, 0},
                 new int[] {1, 5, 0, 0, 0}, new int[] {2, 5, 0, 1, 0}, new int[] {3, 5, 2, 0, 0}).states(), 5);
-        Check.due("operators over a higher tree twice", with(new int[] {0, 0, 0, 0, 0},
+        Check.due("operators over a higher tree twice", Check.with(new int[] {0, 0, 0, 0, 0},
                 new int[] {1, 7, 0, 0, 0}, new int[] {2, 7, 1, 1, 0}).states(), 4);
     }
 
@@ -73,7 +64,7 @@ public final class StatesTest {
      * with TWICE, one of CONST and the one without covers.
      */
     private static void fortyAndMore() {
-        TreeCoverForge forge = with(new int[] {0, 0, 0, 0, 0}, new int[] {3, 0, 0, 0, 0},
+        TreeCoverForge forge = Check.with(new int[] {0, 0, 0, 0, 0}, new int[] {3, 0, 0, 0, 0},
                 new int[] {0, 3, 0, 0, 0}, new int[] {3, 3, 3, 0, 1}, new int[] {0, 4, 0, 0, 0},
                 new int[] {3, 4, 3, 0, 1}, new int[] {1, 8, 0, 0, 9}, new int[] {3, 8, 1, 0, 9});
         Check.due("forty", forge.states(), 40);
@@ -96,23 +87,23 @@ public final class StatesTest {
         int[][] thirtyNine = {{0, 0, 0, 0, 8}, {1, 0, 0, 0, 7}, {1, 6, 0, 0, 4}, {0, 7, 1, 1, 2},
             {1, 0, 0, 0, 9}, {1, 2, 0, 0, 3}, {1, 7, 0, 1, 3}, {1, 7, 1, 1, 9}, {0, 6, 1, 0, 6},
             {1, 4, 0, 0, 5}};
-        Check.due("forty", with(forty).states(), 40);
-        Check.due("forty-one", with(fortyOne).states(), TreeCoverForge.DIVERGES);
-        Check.due("thirty-nine", with(thirtyNine).states(), 39);
+        Check.due("forty", Check.with(forty).states(), 40);
+        Check.due("forty-one", Check.with(fortyOne).states(), TreeCoverForge.DIVERGES);
+        Check.due("thirty-nine", Check.with(thirtyNine).states(), 39);
     }
 
     private static void rulesThatGrow() {
-        Check.due("one more with each NEG", with(new int[] {0, 0, 0, 0, 0}, new int[] {1, 0, 0, 0, 0},
+        Check.due("one more with each NEG", Check.with(new int[] {0, 0, 0, 0, 0}, new int[] {1, 0, 0, 0, 0},
                 new int[] {0, 3, 0, 0, 0}, new int[] {1, 3, 1, 0, 1}).states(), TreeCoverForge.DIVERGES);
-        Check.due("twice as much with each MUL", with(new int[] {0, 0, 0, 0, 0},
+        Check.due("twice as much with each MUL", Check.with(new int[] {0, 0, 0, 0, 0},
                 new int[] {1, 0, 0, 0, 9}, new int[] {0, 7, 0, 0, 0}, new int[] {1, 7, 1, 1, 9}).states(),
                 TreeCoverForge.DIVERGES);
-        Check.due("all kinds alike dear", with(new int[] {0, 0, 0, 0, 9}, new int[] {1, 0, 0, 0, 9},
+        Check.due("all kinds alike dear", Check.with(new int[] {0, 0, 0, 0, 9}, new int[] {1, 0, 0, 0, 9},
                 new int[] {0, 7, 0, 0, 9}, new int[] {1, 7, 1, 1, 9}).states(), 3);
     }
 
     private static void treesAndCodeDoNotCount() {
-        TreeCoverForge forge = with(new int[] {0, 0, 0, 0, 1}, new int[] {0, 5, 0, 0, 1});
+        TreeCoverForge forge = Check.with(new int[] {0, 0, 0, 0, 1}, new int[] {0, 5, 0, 0, 1});
         Check.pushAll(forge, 0, 1, 0, 1, 5, 0);
         Check.due("cover()", forge.cover(), 3);
         Check.due("states()", forge.states(), 3);
