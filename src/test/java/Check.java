@@ -35,6 +35,18 @@ final class Check {
         due(call, got ? 1L : 0L, want ? 1L : 0L);
     }
 
+    /** Runs all parts of a test: one that throws is wrong, and the others are run all the same. */
+    static void each(Runnable... parts) {
+        for (Runnable part : parts) {
+            try {
+                part.run();
+            } catch (RuntimeException thrown) {
+                due("a call that throws " + thrown, true, false);
+            }
+        }
+        finish();
+    }
+
     static void finish() {
         endSentence();
         if (wrong != 0 || asked == 0) {

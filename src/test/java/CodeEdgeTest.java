@@ -4,29 +4,29 @@ public final class CodeEdgeTest {
     private static final int NONE = TreeCoverForge.NONE;
 
     public static void main(String[] args) {
-        registersBecomeK();
-        registersOutOfBounds();
-        registersForCoversToCome();
-        coverAsKindZero();
-        coverFollowsTheChoices();
-        shortestAndLongestCode();
-        codeTakesThePlace();
-        coverWithoutTree();
-        coverWithoutCover();
-        coverTellsBadFirst();
-        refusedCoverChangesNothing();
-        whatInstructionsTell();
-        sourcesThatAreNot();
-        noSuchInstruction();
-        noSuchPart();
-        instructionTellsBadFirst();
-        codeStaysWhateverBecomesOfRules();
-        codeStaysWhateverBecomesOfTrees();
-        slotsWithoutCode();
-        slotsOfTheCode();
-        kidsBeforeOperators();
-        chainRulesBehind();
-        Check.finish();
+        Check.each(
+                CodeEdgeTest::registersBecomeK,
+                CodeEdgeTest::registersOutOfBounds,
+                CodeEdgeTest::registersForCoversToCome,
+                CodeEdgeTest::coverAsKindZero,
+                CodeEdgeTest::coverFollowsTheChoices,
+                CodeEdgeTest::shortestAndLongestCode,
+                CodeEdgeTest::codeTakesThePlace,
+                CodeEdgeTest::coverWithoutTree,
+                CodeEdgeTest::coverWithoutCover,
+                CodeEdgeTest::coverTellsBadFirst,
+                CodeEdgeTest::refusedCoverChangesNothing,
+                CodeEdgeTest::whatInstructionsTell,
+                CodeEdgeTest::sourcesThatAreNot,
+                CodeEdgeTest::noSuchInstruction,
+                CodeEdgeTest::noSuchPart,
+                CodeEdgeTest::instructionTellsBadFirst,
+                CodeEdgeTest::codeStaysWhateverBecomesOfRules,
+                CodeEdgeTest::codeStaysWhateverBecomesOfTrees,
+                CodeEdgeTest::slotsWithoutCode,
+                CodeEdgeTest::slotsOfTheCode,
+                CodeEdgeTest::kidsBeforeOperators,
+                CodeEdgeTest::chainRulesBehind);
     }
 
     /** 9 - (4 - (2 - 1)): four values are needed at once. */
@@ -291,7 +291,7 @@ public final class CodeEdgeTest {
     }
 
     private static void instructionTellsBadFirst() {
-        Check.sentence("14: BAD, where NONE would be told of another instruction");
+        Check.sentence("14: BAD when there is no such instruction or what is not 0 .. 4 (for a source, too)");
         TreeCoverForge forge = Check.plain(0, 1);
         Check.due("cover()", forge.cover(), 1);
         Check.instruction(forge, 0, 0, 0, 0, NONE, NONE, BAD, BAD);

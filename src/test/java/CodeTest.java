@@ -4,20 +4,20 @@ public final class CodeTest {
     private static final int NONE = TreeCoverForge.NONE;
 
     public static void main(String[] args) {
-        refusedCovers();
-        partsOfInstructions();
-        chainsInTheCode();
-        threeRegistersAtFirst();
-        boundsOfRegisters();
-        registersForCoversToCome();
-        longestNeededIsSpilled();
-        placesWithOneRegister();
-        sourcesAreReadFirst();
-        codeStays();
-        largestCode();
-        nodesOfTheTopTree();
-        otherKindsBefore();
-        Check.finish();
+        Check.each(
+                CodeTest::refusedCovers,
+                CodeTest::partsOfInstructions,
+                CodeTest::chainsInTheCode,
+                CodeTest::threeRegistersAtFirst,
+                CodeTest::boundsOfRegisters,
+                CodeTest::registersForCoversToCome,
+                CodeTest::longestNeededIsSpilled,
+                CodeTest::placesWithOneRegister,
+                CodeTest::sourcesAreReadFirst,
+                CodeTest::codeStays,
+                CodeTest::largestCode,
+                CodeTest::nodesOfTheTopTree,
+                CodeTest::otherKindsBefore);
     }
 
     /** Asks for the places of the results of all instructions. */

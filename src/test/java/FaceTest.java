@@ -15,16 +15,25 @@ public final class FaceTest {
             "int value()");
 
     public static void main(String[] args) {
-        Check.due("BAD", TreeCoverForge.BAD, -1);
-        Check.due("FULL", TreeCoverForge.FULL, -2);
-        Check.due("NONE", TreeCoverForge.NONE, -3);
-        Check.due("DIVERGES", TreeCoverForge.DIVERGES, -4);
+        constantsAreThoseOfTheDocument();
+        Check.sentence("The public face");
         int modifiers = TreeCoverForge.class.getModifiers();
         Check.due("public final", Modifier.isPublic(modifiers) && Modifier.isFinal(modifiers), true);
         methodsAreThoseOfTheDocument();
         fieldsAreThoseOfTheDocument();
         nestedClassesAreStatic();
         Check.finish();
+    }
+
+    private static void constantsAreThoseOfTheDocument() {
+        Check.sentence("The constants: BAD = -1");
+        Check.due("BAD", TreeCoverForge.BAD, -1);
+        Check.sentence("FULL = -2");
+        Check.due("FULL", TreeCoverForge.FULL, -2);
+        Check.sentence("NONE = -3");
+        Check.due("NONE", TreeCoverForge.NONE, -3);
+        Check.sentence("DIVERGES = -4");
+        Check.due("DIVERGES", TreeCoverForge.DIVERGES, -4);
     }
 
     private static String textOf(Method method) {

@@ -6,30 +6,30 @@ public final class LabelEdgeTest {
     private static final int NONE = TreeCoverForge.NONE;
 
     public static void main(String[] args) {
-        byHowMuchMore();
-        greatestDifference();
-        nodesAsTreesOfTheirOwn();
-        relativeWithoutTree();
-        relativeOfNoNode();
-        relativeOfNoKind();
-        relativeWithoutCover();
-        choiceForNodeAndKind();
-        choiceWithoutTree();
-        choiceOfNoNode();
-        choiceOfNoKind();
-        choiceWithoutCover();
-        costForKind();
-        dearestTreeOfAll();
-        costWithoutTree();
-        costOfNoKind();
-        costWithoutCover();
-        badBeforeNone();
-        refusalsChangeNothing();
-        sumOfAllRules();
-        leastNumberedRule();
-        neverGoesRound();
-        nodesInTheirOrder();
-        Check.finish();
+        Check.each(
+                LabelEdgeTest::byHowMuchMore,
+                LabelEdgeTest::greatestDifference,
+                LabelEdgeTest::nodesAsTreesOfTheirOwn,
+                LabelEdgeTest::relativeWithoutTree,
+                LabelEdgeTest::relativeOfNoNode,
+                LabelEdgeTest::relativeOfNoKind,
+                LabelEdgeTest::relativeWithoutCover,
+                LabelEdgeTest::choiceForNodeAndKind,
+                LabelEdgeTest::choiceWithoutTree,
+                LabelEdgeTest::choiceOfNoNode,
+                LabelEdgeTest::choiceOfNoKind,
+                LabelEdgeTest::choiceWithoutCover,
+                LabelEdgeTest::costForKind,
+                LabelEdgeTest::dearestTreeOfAll,
+                LabelEdgeTest::costWithoutTree,
+                LabelEdgeTest::costOfNoKind,
+                LabelEdgeTest::costWithoutCover,
+                LabelEdgeTest::badBeforeNone,
+                LabelEdgeTest::refusalsChangeNothing,
+                LabelEdgeTest::sumOfAllRules,
+                LabelEdgeTest::leastNumberedRule,
+                LabelEdgeTest::neverGoesRound,
+                LabelEdgeTest::nodesInTheirOrder);
     }
 
     /** CONST is covered as kinds 0, 1 and 2, the sum of two of them as kind 3 alone. */
@@ -86,14 +86,21 @@ public final class LabelEdgeTest {
     private static void nodesAsTreesOfTheirOwn() {
         Check.sentence("9: .. of a node of the top tree (as a tree of its own)");
         TreeCoverForge forge = mixed();
+        Check.pushAll(forge, 0, 1, 0, 1, 5, 0);
         TreeCoverForge alone = mixed();
         alone.pop();
         Check.pushAll(alone, 0, 1);
-        for (int kind = 0; kind < 4; kind++) {
-            int relative = alone.relative(0, kind);
-            int choice = alone.choice(0, kind);
-            Check.label(forge, 0, kind, relative, choice);
-            Check.label(forge, 1, kind, relative, choice);
+        for (int time = 0; time < 2; time++) {
+            for (int kind = 0; kind < 4; kind++) {
+                int relative = alone.relative(0, kind);
+                int choice = alone.choice(0, kind);
+                Check.label(forge, 0, kind, relative, choice);
+                Check.label(forge, 1, kind, relative, choice);
+                Check.label(forge, 2, kind, kind == 3 ? 0 : NONE, kind == 3 ? 3 : NONE);
+            }
+            forge.pop();
+            forge.pop();
+            Check.pushAll(forge, 1, 1, 0, 1, 0, 1, 5, 0);
         }
     }
 

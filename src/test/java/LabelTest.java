@@ -4,16 +4,16 @@ public final class LabelTest {
     private static final int NONE = TreeCoverForge.NONE;
 
     public static void main(String[] args) {
-        noTree();
-        outOfBounds();
-        costsOfAllKinds();
-        nodesAreTreesOfTheirOwn();
-        leastNumberedRule();
-        chainsThroughAllKinds();
-        rulesOfNowCount();
-        onlyTheTopTree();
-        dearestTree();
-        Check.finish();
+        Check.each(
+                LabelTest::noTree,
+                LabelTest::outOfBounds,
+                LabelTest::costsOfAllKinds,
+                LabelTest::nodesAreTreesOfTheirOwn,
+                LabelTest::leastNumberedRule,
+                LabelTest::chainsThroughAllKinds,
+                LabelTest::rulesOfNowCount,
+                LabelTest::onlyTheTopTree,
+                LabelTest::dearestTree);
     }
 
     private static void noTree() {

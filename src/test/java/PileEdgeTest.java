@@ -4,30 +4,30 @@ public final class PileEdgeTest {
     private static final int FULL = TreeCoverForge.FULL;
 
     public static void main(String[] args) {
-        leafWithNumber();
-        operatorOverTopTree();
-        operatorOverTwoTopTrees();
-        howManyTreesLieThere();
-        operatorOutOfBounds();
-        numberOutOfBounds();
-        numbersOfOthers();
-        notAsManyTrees();
-        fullAtFortyNodes();
-        fortiethNodeOfEachSort();
-        fortyNodesTogether();
-        higherThanTen();
-        highLeftKid();
-        highRightKid();
-        leavesBesideHighTrees();
-        badBeforeFortyNodes();
-        badBeforeTooHigh();
-        refusedPushTakesNothing();
-        popTakesTheTopTree();
-        popOfNone();
-        popMakesRoom();
-        treesFromNoneToForty();
-        nodesFromNoneToForty();
-        Check.finish();
+        Check.each(
+                PileEdgeTest::leafWithNumber,
+                PileEdgeTest::operatorOverTopTree,
+                PileEdgeTest::operatorOverTwoTopTrees,
+                PileEdgeTest::howManyTreesLieThere,
+                PileEdgeTest::operatorOutOfBounds,
+                PileEdgeTest::numberOutOfBounds,
+                PileEdgeTest::numbersOfOthers,
+                PileEdgeTest::notAsManyTrees,
+                PileEdgeTest::fullAtFortyNodes,
+                PileEdgeTest::fortiethNodeOfEachSort,
+                PileEdgeTest::fortyNodesTogether,
+                PileEdgeTest::higherThanTen,
+                PileEdgeTest::highLeftKid,
+                PileEdgeTest::highRightKid,
+                PileEdgeTest::leavesBesideHighTrees,
+                PileEdgeTest::badBeforeFortyNodes,
+                PileEdgeTest::badBeforeTooHigh,
+                PileEdgeTest::refusedPushTakesNothing,
+                PileEdgeTest::popTakesTheTopTree,
+                PileEdgeTest::popOfNone,
+                PileEdgeTest::popMakesRoom,
+                PileEdgeTest::treesFromNoneToForty,
+                PileEdgeTest::nodesFromNoneToForty);
     }
 
     private static TreeCoverForge leaves(int count) {

@@ -1,14 +1,14 @@
 /** Promises 5 to 8: push, pop, trees, nodes. */
 public final class PileTest {
     public static void main(String[] args) {
-        pushAnswersTheTrees();
-        badPushes();
-        numbersThatAreTaken();
-        fullOfNodes();
-        tooHigh();
-        badBeforeFull();
-        popTakesWholeTrees();
-        Check.finish();
+        Check.each(
+                PileTest::pushAnswersTheTrees,
+                PileTest::badPushes,
+                PileTest::numbersThatAreTaken,
+                PileTest::fullOfNodes,
+                PileTest::tooHigh,
+                PileTest::badBeforeFull,
+                PileTest::popTakesWholeTrees);
     }
 
     private static void pushAnswersTheTrees() {

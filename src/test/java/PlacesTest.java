@@ -3,20 +3,20 @@ public final class PlacesTest {
     private static final int NONE = TreeCoverForge.NONE;
 
     public static void main(String[] args) {
-        neededUntilItsUse();
-        lastOneUntilItself();
-        threeRegistersAtFirst();
-        registersThenSlots();
-        sourcesAreFreeForTheResult();
-        leastFreeRegister();
-        greatestUseIsSpilled();
-        sameUseTheGreaterNumber();
-        slotThatNobodyHadYet();
-        registerOfTheSpilledOne();
-        inItsSlotAllAlong();
-        aSlotForEachOperator();
-        chainRulesTakeNoNewRegister();
-        Check.finish();
+        Check.each(
+                PlacesTest::neededUntilItsUse,
+                PlacesTest::lastOneUntilItself,
+                PlacesTest::threeRegistersAtFirst,
+                PlacesTest::registersThenSlots,
+                PlacesTest::sourcesAreFreeForTheResult,
+                PlacesTest::leastFreeRegister,
+                PlacesTest::greatestUseIsSpilled,
+                PlacesTest::sameUseTheGreaterNumber,
+                PlacesTest::slotThatNobodyHadYet,
+                PlacesTest::registerOfTheSpilledOne,
+                PlacesTest::inItsSlotAllAlong,
+                PlacesTest::aSlotForEachOperator,
+                PlacesTest::chainRulesTakeNoNewRegister);
     }
 
     /** Constants 1, 2, .. with SUBs, each over a constant and all that comes behind it. */

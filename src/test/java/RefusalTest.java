@@ -1,5 +1,6 @@
 import java.util.ArrayList;
 import java.util.List;
+import java.util.function.BiConsumer;
 import java.util.function.Consumer;
 import java.util.function.ToIntFunction;
 
@@ -14,29 +15,49 @@ public final class RefusalTest {
     private static final int FALSE = 0;
     /** The longest past of all, and the refused calls, must leave so many calls to ask with. */
     private static final int MOST_ASKED = 360;
+    private static final int CODE_LENGTH = 7;
 
     private record Refused(String call, int due, ToIntFunction<TreeCoverForge> made) {
     }
 
+    /** Asks for one sort of things alone: refused calls among other questions could hide a change. */
+    private record Probe(String about, BiConsumer<TreeCoverForge, List<Integer>> asked) {
+    }
+
     private final String name;
+    private final int codeLength;
     private final Consumer<TreeCoverForge> past;
     private final List<Refused> refused = new ArrayList<>();
+    private final List<Probe> probes = new ArrayList<>();
 
-    private RefusalTest(String name, Consumer<TreeCoverForge> past) {
+    private RefusalTest(String name, int codeLength, Consumer<TreeCoverForge> past) {
         this.name = name;
+        this.codeLength = codeLength;
         this.past = past;
+        probes.add(new Probe("code", this::askCode));
+        probes.add(new Probe("labels", RefusalTest::askLabels));
+        probes.add(new Probe("labels from behind", RefusalTest::askLabelsFromBehind));
+        probes.add(new Probe("labels of new trees", RefusalTest::askNewTrees));
+        probes.add(new Probe("states", (forge, answers) -> answers.add(forge.states())));
+        probes.add(new Probe("pile", RefusalTest::askPile));
+        probes.add(new Probe("variables", RefusalTest::askVariables));
+        probes.add(new Probe("K", RefusalTest::askRegisters));
+        probes.add(new Probe("rules", RefusalTest::askRules));
+        probes.add(new Probe("room for trees", RefusalTest::askRoom));
+        probes.add(new Probe("new code", RefusalTest::askNewCode));
+        probes.add(new Probe("all", this::askAll));
     }
 
     public static void main(String[] args) {
-        newObject();
-        inUse();
-        statesAsked();
-        fullOfRules();
-        fullOfNodes();
-        asHighAsCanBe();
-        withoutTrees();
-        withoutRules();
-        Check.finish();
+        Check.each(
+                RefusalTest::newObject,
+                RefusalTest::inUse,
+                RefusalTest::statesAsked,
+                RefusalTest::fullOfRules,
+                RefusalTest::fullOfNodes,
+                RefusalTest::asHighAsCanBe,
+                RefusalTest::withoutTrees,
+                RefusalTest::withoutRules);
     }
 
     private RefusalTest refuse(int due, String call, ToIntFunction<TreeCoverForge> made) {
@@ -96,27 +117,36 @@ public final class RefusalTest {
         return this;
     }
 
-    /** Every refused call on an object of its own, and all of them on one. */
+    /** Every refused call on an object of its own, and all of them on one, for every probe. */
     private void changeNothing() {
-        Check.sentence("Terms: A call that is refused changes nothing (" + name + ")");
-        List<Integer> due = everything(made());
-        Check.due(name + ": so many things are asked", due.size() <= MOST_ASKED, true);
-        TreeCoverForge all = made();
-        for (Refused call : refused) {
-            Check.sentence("Terms: A call that is refused changes nothing (" + name + ": " + call.call() + ")");
-            TreeCoverForge one = made();
-            Check.due(call.call(), call.made().applyAsInt(one), call.due());
-            compare(everything(one), due);
-            Check.due(call.call(), call.made().applyAsInt(all), call.due());
+        for (Probe probe : probes) {
+            String about = name + ", " + probe.about();
+            Check.sentence("Terms: A call that is refused changes nothing (" + about + ")");
+            List<Integer> due = answers(probe, made());
+            Check.due("so many things are asked", due.size() <= MOST_ASKED, true);
+            TreeCoverForge all = made();
+            for (Refused call : refused) {
+                Check.sentence("Terms: A call that is refused changes nothing (" + about + ": " + call.call() + ")");
+                TreeCoverForge one = made();
+                Check.due(call.call(), call.made().applyAsInt(one), call.due());
+                compare(answers(probe, one), due);
+                Check.due(call.call(), call.made().applyAsInt(all), call.due());
+            }
+            Check.sentence("Terms: A call that is refused changes nothing (" + about + ": all of them)");
+            compare(answers(probe, all), due);
         }
-        Check.sentence("Terms: A call that is refused changes nothing (" + name + ": all of them)");
-        compare(everything(all), due);
     }
 
     private TreeCoverForge made() {
         TreeCoverForge forge = new TreeCoverForge();
         past.accept(forge);
         return forge;
+    }
+
+    private static List<Integer> answers(Probe probe, TreeCoverForge forge) {
+        List<Integer> answers = new ArrayList<>();
+        probe.asked().accept(forge, answers);
+        return answers;
     }
 
     private static void compare(List<Integer> got, List<Integer> due) {
@@ -126,50 +156,23 @@ public final class RefusalTest {
         }
     }
 
-    private static List<Integer> everything(TreeCoverForge forge) {
-        List<Integer> answers = new ArrayList<>();
-        askCode(forge, answers);
-        askTree(forge, answers);
-        answers.add(forge.states());
-        answers.add(forge.cover());
-        askCode(forge, answers);
-        askPile(forge, answers);
-        for (int v = 0; v < 8; v++) {
-            answers.add(forge.push(1, v));
-            answers.add(forge.value());
-        }
-        answers.add(forge.cover());
-        answers.add(forge.cost(0));
-        int number = 0;
-        for (int i = 0; i < 25 && number >= 0; i++) {
-            number = forge.rule(0, 1, 0, 0, 0);
-            answers.add(number);
-        }
-        forge.clear();
-        answers.add(0);
-        answers.add(forge.rule(0, 0, 0, 0, 0));
-        return answers;
-    }
-
-    private static void askCode(TreeCoverForge forge, List<Integer> answers) {
+    private void askCode(TreeCoverForge forge, List<Integer> answers) {
         answers.add(forge.run());
         answers.add(forge.slots());
-        int rule = forge.instruction(0, 0);
-        answers.add(rule);
-        for (int i = 0; rule != BAD && i < 160; i++) {
-            for (int what = 1; what <= 4; what++) {
+        askInstructions(forge, codeLength, answers);
+        answers.add(forge.instruction(codeLength, 0));
+    }
+
+    private static void askInstructions(TreeCoverForge forge, int count, List<Integer> answers) {
+        for (int i = 0; i < count; i++) {
+            for (int what = 0; what <= 4; what++) {
                 answers.add(forge.instruction(i, what));
             }
-            rule = forge.instruction(i + 1, 0);
-            answers.add(rule);
         }
     }
 
-    private static void askTree(TreeCoverForge forge, List<Integer> answers) {
-        answers.add(forge.trees());
+    private static void askLabels(TreeCoverForge forge, List<Integer> answers) {
         int nodes = forge.nodes();
-        answers.add(nodes);
-        answers.add(forge.value());
         for (int kind = 0; kind < 4; kind++) {
             answers.add(forge.cost(kind));
             for (int node = 0; node < nodes; node++) {
@@ -179,18 +182,100 @@ public final class RefusalTest {
         }
     }
 
-    private static void askPile(TreeCoverForge forge, List<Integer> answers) {
-        boolean more = true;
-        for (int i = 0; i < 41 && more; i++) {
-            answers.add(forge.nodes());
-            answers.add(forge.value());
-            more = forge.pop();
-            answers.add(more ? 1 : 0);
+    private static void askLabelsFromBehind(TreeCoverForge forge, List<Integer> answers) {
+        for (int node = forge.nodes() - 1; node >= 0; node--) {
+            for (int kind = 2; kind >= 0; kind--) {
+                answers.add(forge.choice(node, kind));
+                answers.add(forge.relative(node, kind));
+            }
         }
     }
 
+    private static void askPile(TreeCoverForge forge, List<Integer> answers) {
+        for (int trees = forge.trees(); trees > 0; trees--) {
+            answers.add(forge.trees());
+            answers.add(forge.nodes());
+            answers.add(forge.value());
+            forge.pop();
+        }
+        answers.add(forge.trees());
+        answers.add(forge.nodes());
+        answers.add(forge.value());
+    }
+
+    private static void popAll(TreeCoverForge forge) {
+        for (int trees = forge.trees(); trees > 0; trees--) {
+            forge.pop();
+        }
+    }
+
+    private static void askNewTrees(TreeCoverForge forge, List<Integer> answers) {
+        popAll(forge);
+        int[] ops = {0, 1, 5, 2, 6, 3, 0, 7};
+        for (int op : ops) {
+            answers.add(forge.push(op, 1));
+            askLabelsFromBehind(forge, answers);
+        }
+    }
+
+    private static void askVariables(TreeCoverForge forge, List<Integer> answers) {
+        popAll(forge);
+        for (int v = 0; v < 8; v++) {
+            forge.push(1, v);
+            answers.add(forge.value());
+        }
+    }
+
+    private static void askRegisters(TreeCoverForge forge, List<Integer> answers) {
+        popAll(forge);
+        forge.clear();
+        forge.rule(0, 0, 0, 0, 1);
+        forge.rule(0, 6, 0, 0, 1);
+        Check.pushAll(forge, 0, 1, 0, 2, 0, 3, 0, 4, 0, 5, 0, 6, 6, 0, 6, 0, 6, 0, 6, 0, 6, 0);
+        int count = forge.cover();
+        answers.add(count);
+        answers.add(forge.slots());
+        askInstructions(forge, count, answers);
+    }
+
+    private static void askRules(TreeCoverForge forge, List<Integer> answers) {
+        int number = 0;
+        for (int i = 0; i < 25 && number >= 0; i++) {
+            number = forge.rule(3, 1, 0, 0, 0);
+            answers.add(number);
+        }
+        forge.clear();
+        answers.add(forge.rule(0, 0, 0, 0, 0));
+    }
+
+    private static void askRoom(TreeCoverForge forge, List<Integer> answers) {
+        int trees = 0;
+        for (int i = 0; i < 41 && trees >= 0; i++) {
+            trees = forge.push(0, i);
+            answers.add(trees);
+        }
+    }
+
+    private static void askNewCode(TreeCoverForge forge, List<Integer> answers) {
+        int count = forge.cover();
+        answers.add(count);
+        askInstructions(forge, count, answers);
+        answers.add(forge.slots());
+        answers.add(forge.run());
+    }
+
+    private void askAll(TreeCoverForge forge, List<Integer> answers) {
+        askCode(forge, answers);
+        askLabels(forge, answers);
+        answers.add(forge.states());
+        askNewCode(forge, answers);
+        askPile(forge, answers);
+        askVariables(forge, answers);
+        askRules(forge, answers);
+    }
+
     private static void newObject() {
-        RefusalTest test = new RefusalTest("a new object", forge -> { });
+        RefusalTest test = new RefusalTest("a new object", 0, forge -> { });
         for (int op = 3; op < 8; op++) {
             test.push(BAD, op, 0);
         }
@@ -202,7 +287,7 @@ public final class RefusalTest {
 
     /** Rules of all sorts but for TWICE, three trees, variables, code with K = 2, and now K = 1. */
     private static void usedMuch(TreeCoverForge forge) {
-        int[][] rules = {{0, 0, 0, 0, 3}, {1, 0, 0, 0, 1}, {0, 1, 0, 0, 2}, {1, 2, 0, 0, 2},
+        int[][] rules = {{2, 0, 0, 0, 3}, {1, 0, 0, 0, 1}, {0, 1, 0, 0, 2}, {1, 2, 0, 0, 2},
             {0, 8, 1, 0, 1}, {2, 8, 0, 0, 4}, {0, 3, 2, 0, 1}, {0, 5, 0, 0, 2}, {2, 6, 0, 1, 3},
             {0, 6, 0, 0, 3}, {1, 7, 1, 2, 0}};
         for (int[] rule : rules) {
@@ -213,12 +298,12 @@ public final class RefusalTest {
         }
         forge.registers(2);
         Check.pushAll(forge, 0, 7, 1, 3, 3, 0, 2, 4, 1, 1, 0, 6, 5, 0, 6, 0);
-        Check.due("cover()", forge.cover(), 7);
+        Check.due("cover()", forge.cover(), CODE_LENGTH);
         forge.registers(1);
     }
 
     private static RefusalTest usedTest(String name, Consumer<TreeCoverForge> more) {
-        RefusalTest test = new RefusalTest(name, forge -> {
+        RefusalTest test = new RefusalTest(name, CODE_LENGTH, forge -> {
             usedMuch(forge);
             more.accept(forge);
         });
@@ -278,7 +363,7 @@ public final class RefusalTest {
             Check.pushAll(forge, 1, 2);
         });
         below.push(FULL, 5, 0).push(FULL, 6, 0).push(FULL, 7, 0).changeNothing();
-        RefusalTest alone = new RefusalTest("one high tree alone", forge -> Check.pushHigh(forge, 10));
+        RefusalTest alone = new RefusalTest("one high tree alone", 0, forge -> Check.pushHigh(forge, 10));
         alone.always().push(FULL, 3, 0).push(FULL, 4, 0).push(BAD, 5, 0).push(BAD, 6, 0).push(BAD, 7, 0);
         alone.label(NONE, 9, 0).cost(NONE, 0).cover(NONE).changeNothing();
     }

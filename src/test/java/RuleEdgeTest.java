@@ -6,30 +6,30 @@ public final class RuleEdgeTest {
     private static final int CHAIN = 8;
 
     public static void main(String[] args) {
-        noRulesAtFirst();
-        noTreesAtFirst();
-        noCodeAtFirst();
-        objectsShareNothing();
-        numbersAreAnswered();
-        kindOutOfBounds();
-        operatorOutOfBounds();
-        firstKindOutOfBounds();
-        secondKindOutOfBounds();
-        firstKindOfLeaf();
-        secondKindOfOthers();
-        kindOfChain();
-        costOutOfBounds();
-        costOfChain();
-        fullAtTwentyFour();
-        badBeforeFull();
-        everyCallRoundTheBounds();
-        everyRuleIsWhatItSays();
-        allRulesAreGone();
-        clearOfNothing();
-        treesStay();
-        codeStays();
-        registersAndVariablesStay();
-        Check.finish();
+        Check.each(
+                RuleEdgeTest::noRulesAtFirst,
+                RuleEdgeTest::noTreesAtFirst,
+                RuleEdgeTest::noCodeAtFirst,
+                RuleEdgeTest::objectsShareNothing,
+                RuleEdgeTest::numbersAreAnswered,
+                RuleEdgeTest::kindOutOfBounds,
+                RuleEdgeTest::operatorOutOfBounds,
+                RuleEdgeTest::firstKindOutOfBounds,
+                RuleEdgeTest::secondKindOutOfBounds,
+                RuleEdgeTest::firstKindOfLeaf,
+                RuleEdgeTest::secondKindOfOthers,
+                RuleEdgeTest::kindOfChain,
+                RuleEdgeTest::costOutOfBounds,
+                RuleEdgeTest::costOfChain,
+                RuleEdgeTest::fullAtTwentyFour,
+                RuleEdgeTest::badBeforeFull,
+                RuleEdgeTest::everyCallRoundTheBounds,
+                RuleEdgeTest::everyRuleIsWhatItSays,
+                RuleEdgeTest::allRulesAreGone,
+                RuleEdgeTest::clearOfNothing,
+                RuleEdgeTest::treesStay,
+                RuleEdgeTest::codeStays,
+                RuleEdgeTest::registersAndVariablesStay);
     }
 
     /** Refused by a new object and by one with rules, which then give the numbers as before. */
@@ -463,6 +463,7 @@ public final class RuleEdgeTest {
         Check.due("value()", forge.value(), -2);
         Check.plainRules(forge);
         Check.places(forge, 0, 1, 0);
+        Check.due("slots()", forge.slots(), 1);
         Check.due("run()", forge.run(), -2);
     }
 }

@@ -1,13 +1,13 @@
 /** Promises 1 to 3: a new object, rule, clear. */
 public final class RuleTest {
     public static void main(String[] args) {
-        newObject();
-        numbersInTheirOrder();
-        badRules();
-        boundsThatAreTaken();
-        fullOfRules();
-        clearTakesRulesOnly();
-        Check.finish();
+        Check.each(
+                RuleTest::newObject,
+                RuleTest::numbersInTheirOrder,
+                RuleTest::badRules,
+                RuleTest::boundsThatAreTaken,
+                RuleTest::fullOfRules,
+                RuleTest::clearTakesRulesOnly);
     }
 
     private static void newObject() {

@@ -7,26 +7,26 @@ public final class RunEdgeTest {
     private static final int[] INTS = {MIN, MIN + 1, -65536, -1, 0, 1, 2, 46341, 65536, 1 << 30, MAX - 1, MAX};
 
     public static void main(String[] args) {
-        variableBecomes();
-        variableOutOfBounds();
-        refusedSetChangesNothing();
-        runWithVariablesOfNow();
-        runWithoutCode();
-        resultOfTheLastInstruction();
-        runOnRegistersAndSlots();
-        runChangesNothing();
-        valueOfTheTopTree();
-        valueWithoutTree();
-        valueOfConst();
-        variablesAtFirst();
-        valueOfPlace();
-        negWraps();
-        twiceWraps();
-        addSubMulWrap();
-        wrapsAtEveryNode();
-        resultOfAChainRule();
-        fiveHundredAndTwelveCalls();
-        Check.finish();
+        Check.each(
+                RunEdgeTest::variableBecomes,
+                RunEdgeTest::variableOutOfBounds,
+                RunEdgeTest::refusedSetChangesNothing,
+                RunEdgeTest::runWithVariablesOfNow,
+                RunEdgeTest::runWithoutCode,
+                RunEdgeTest::resultOfTheLastInstruction,
+                RunEdgeTest::runOnRegistersAndSlots,
+                RunEdgeTest::runChangesNothing,
+                RunEdgeTest::valueOfTheTopTree,
+                RunEdgeTest::valueWithoutTree,
+                RunEdgeTest::valueOfConst,
+                RunEdgeTest::variablesAtFirst,
+                RunEdgeTest::valueOfPlace,
+                RunEdgeTest::negWraps,
+                RunEdgeTest::twiceWraps,
+                RunEdgeTest::addSubMulWrap,
+                RunEdgeTest::wrapsAtEveryNode,
+                RunEdgeTest::resultOfAChainRule,
+                RunEdgeTest::fiveHundredAndTwelveCalls);
     }
 
     /** What the tree is worth, and what its code answers with every K. */
@@ -128,6 +128,7 @@ public final class RunEdgeTest {
     private static void resultOfTheLastInstruction() {
         Check.sentence("17: the result of its last instruction");
         TreeCoverForge forge = Check.plain(0, 3, 0, 4, 0, 5, 7, 0, 6, 0);
+        forge.registers(1);
         Check.due("cover()", forge.cover(), 5);
         Check.due("run()", forge.run(), 3 - 20);
         Check.pushAll(forge, 0, 100);

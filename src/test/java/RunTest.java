@@ -1,14 +1,14 @@
 /** Promises 16 to 18: set, run, value. */
 public final class RunTest {
     public static void main(String[] args) {
-        boundsOfSet();
-        everyOperator();
-        wrappingInts();
-        variablesOfNow();
-        runIsTheCodes();
-        leftAndRight();
-        largestTree();
-        Check.finish();
+        Check.each(
+                RunTest::boundsOfSet,
+                RunTest::everyOperator,
+                RunTest::wrappingInts,
+                RunTest::variablesOfNow,
+                RunTest::runIsTheCodes,
+                RunTest::leftAndRight,
+                RunTest::largestTree);
     }
 
     private static void bothAnswer(TreeCoverForge forge, int due) {

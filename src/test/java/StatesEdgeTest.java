@@ -3,22 +3,22 @@ public final class StatesEdgeTest {
     private static final int DIVERGES = TreeCoverForge.DIVERGES;
 
     public static void main(String[] args) {
-        oneWithoutRules();
-        withoutCoverOnlyWhereSomeTreeIs();
-        anyOperators();
-        anyNumbers();
-        anyHeight();
-        anyNumberOfNodes();
-        whetherThereIsACover();
-        howMuchMore();
-        theChoice();
-        agreeingInAll();
-        fortyAndFortyOne();
-        fortyAtOnce();
-        withoutEnd();
-        fewerAgain();
-        statesOfTheRulesOfNow();
-        Check.finish();
+        Check.each(
+                StatesEdgeTest::oneWithoutRules,
+                StatesEdgeTest::withoutCoverOnlyWhereSomeTreeIs,
+                StatesEdgeTest::anyOperators,
+                StatesEdgeTest::anyNumbers,
+                StatesEdgeTest::anyHeight,
+                StatesEdgeTest::anyNumberOfNodes,
+                StatesEdgeTest::whetherThereIsACover,
+                StatesEdgeTest::howMuchMore,
+                StatesEdgeTest::theChoice,
+                StatesEdgeTest::agreeingInAll,
+                StatesEdgeTest::fortyAndFortyOne,
+                StatesEdgeTest::fortyAtOnce,
+                StatesEdgeTest::withoutEnd,
+                StatesEdgeTest::fewerAgain,
+                StatesEdgeTest::statesOfTheRulesOfNow);
     }
 
     private static void oneWithoutRules() {

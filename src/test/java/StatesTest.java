@@ -1,15 +1,15 @@
 /** Promise 4: states. */
 public final class StatesTest {
     public static void main(String[] args) {
-        leavesAndOperators();
-        choicesTellStatesApart();
-        numbersDoNotTellStatesApart();
-        sidesTellStatesApart();
-        fortyAndMore();
-        foundSets();
-        rulesThatGrow();
-        treesAndCodeDoNotCount();
-        Check.finish();
+        Check.each(
+                StatesTest::leavesAndOperators,
+                StatesTest::choicesTellStatesApart,
+                StatesTest::numbersDoNotTellStatesApart,
+                StatesTest::sidesTellStatesApart,
+                StatesTest::fortyAndMore,
+                StatesTest::foundSets,
+                StatesTest::rulesThatGrow,
+                StatesTest::treesAndCodeDoNotCount);
     }
 
     private static void leavesAndOperators() {
